@@ -642,10 +642,10 @@ public final class LessonTiers {
         }
 
         int host(int rule, int first, int end) {
-            for (int i = 0; i < count; i++) {
-                boolean isFirst = first(i) == first;
-                boolean isEnd = end(i) == end;
-                if (rule == INSIDE && first(i) <= first && end <= end(i)
+            for (int i = 0; i < count && i < ROOM; i++) {
+                boolean isFirst = firsts[i] == first;
+                boolean isEnd = ends[i] == end;
+                if (rule == INSIDE && firsts[i] <= first && end <= ends[i]
                         || rule == SAME_FRAMES && isFirst && isEnd
                         || rule == SAME_FIRST && isFirst) {
                     return i;
@@ -1036,7 +1036,6 @@ public final class LessonTiers {
 
         void empty() {
             length = 0;
-            position = 0;
         }
 
         void restart() {
