@@ -68,7 +68,7 @@ public final class FaceTest {
 
     private static void checkInside() {
         Class<?>[] inside = LessonTiers.class.getDeclaredClasses();
-        check(inside.length < 12, "at most some twelve classes");
+        check(inside.length <= 12, "at most some twelve classes");
         for (Class<?> c : inside) {
             check(Modifier.isStatic(c.getModifiers()) && !Modifier.isPublic(c.getModifiers()), c + " is static and hidden");
             checkFields(c);
@@ -93,15 +93,17 @@ public final class FaceTest {
 
     private static void checkWords() throws IOException {
         String source = Files.readString(Path.of("src/main/java/LessonTiers.java"));
-        String[] ruledOut = {"\\btry\\b", "\\bcatch\\b", "\\bfinally\\b", "\\bsynchronized\\b", "\\bassert\\b", "->", "::",
-            "^package", "\\bstatic \\{", "\\bRandom\\b", "System\\.(?!arraycopy)", "Exact\\(", "\\[\\]\\[\\]"};
+        String[] ruledOut = {"\\btry *\\(", "\\bfinally\\b", "\\bsynchronized\\b", "\\bassert\\b", "^(?!.*\\b(case|default)\\b).*->",
+            "::", "^package", "\\bstatic \\{", "\\bRandom\\b", "System\\.(?!arraycopy)", "Exact\\(",
+            "catch *\\((Throwable|Error|Exception|ArrayIndex|NullPointer|ClassCast|NegativeArray|ArrayStore)"};
         for (String word : ruledOut) {
             Matcher m = Pattern.compile(word, Pattern.MULTILINE).matcher(source);
             check(!m.find(), "the source does without " + word);
         }
         Matcher imports = Pattern.compile("^import (.*);", Pattern.MULTILINE).matcher(source);
         while (imports.find()) {
-            check(imports.group(1).equals("java.util.NoSuchElementException"), "no import of " + imports.group(1));
+            check(imports.group(1).matches("java\\.util\\.(NoSuchElementException|ArrayList|List|Arrays|Iterator)"),
+                "no import of " + imports.group(1));
         }
         check(source.chars().allMatch(c -> c == '\n' || c >= 32 && c < 127), "the source is plain text");
         checkLengths(source);

@@ -10,12 +10,13 @@ import java.util.regex.Matcher;
 import java.util.regex.Pattern;
 
 /**
- * Long runs of calls, the same ones each time, compared with a plain model: it counts frame by frame, tries all
+ * Runs of 512 calls, the same ones each time, compared with a plain model: it counts frame by frame, tries all
  * alignments and all matches, copies its whole state for each change, and reads texts by regular expressions.
  */
 public final class ModelTest {
-    private static final int RUNS = 400;
-    private static final int CALLS = 512;
+    private static final int RUNS = 6000;
+    /** More than a change with its text and the questions behind it need. */
+    private static final int ROUND = 90;
 
     private static final class Span {
         int first;
@@ -772,7 +773,7 @@ public final class ModelTest {
         double go();
     }
 
-    private final LessonTiers x = new LessonTiers();
+    private final Counted x = new Counted();
     private final Model m = new Model();
     private final List<String> log = new ArrayList<>();
     private long seed;
@@ -805,6 +806,9 @@ public final class ModelTest {
     }
 
     private void both(String what, Call real, Call plain) {
+        if (x.callsLeft() == 0) {
+            return;
+        }
         log.add(what);
         Class<?>[] got = new Class<?>[1];
         Class<?>[] due = new Class<?>[1];
@@ -989,6 +993,13 @@ public final class ModelTest {
         }
     }
 
+    /** One of a few questions, so that the calls of a run are enough for many changes. */
+    private void some(String what, Call real, Call plain) {
+        if (next(4) == 0) {
+            both(what, real, plain);
+        }
+    }
+
     private void ask() {
         int tier = tierNumber();
         int other = tierNumber();
@@ -996,41 +1007,45 @@ public final class ModelTest {
         int what = next(10) - 1;
         int few = next(7) - 1;
         int odd = next(8) == 0 ? next(1100) - 50 : next(6);
-        boolean is = next(2) == 0;
-        both("tier(" + tier + ", " + what + ")", () -> x.tier(tier, what), () -> m.tier(tier, what));
-        both("book(" + what + ")", () -> x.book(what), () -> m.book(what));
-        both("span(" + tier + ", " + span + ", " + few + ")", () -> x.span(tier, span, few), () -> m.span(tier, span, few));
-        both("letter(" + tier + ", " + span + ", " + few + ")", () -> x.letter(tier, span, few), () -> m.letter(tier, span, few));
         int frame = next(range + 10) - 5;
-        both("spanAt(" + tier + ", " + frame + ")", () -> x.spanAt(tier, frame), () -> m.spanAt(tier, frame));
-        both("refusal(" + is + ")", () -> x.refusal(is), () -> m.refusal(is));
-        both("errorPosition()", x::errorPosition, m::errorPosition);
-        both("refusedItem()", x::refusedItem, m::refusedItem);
+        boolean is = next(2) == 0;
+        some("tier(" + tier + ", " + what + ")", () -> x.tier(tier, what), () -> m.tier(tier, what));
+        some("book(" + what + ")", () -> x.book(what), () -> m.book(what));
+        some("span(" + tier + ", " + span + ", " + few + ")", () -> x.span(tier, span, few), () -> m.span(tier, span, few));
+        some("letter(" + tier + ", " + span + ", " + few + ")", () -> x.letter(tier, span, few), () -> m.letter(tier, span, few));
+        some("spanAt(" + tier + ", " + frame + ")", () -> x.spanAt(tier, frame), () -> m.spanAt(tier, frame));
+        some("refusal(" + is + ")", () -> x.refusal(is), () -> m.refusal(is));
+        some("errorPosition()", x::errorPosition, m::errorPosition);
+        some("refusedItem()", x::refusedItem, m::refusedItem);
         if (m.isShort(tier) && m.isShort(other)) {
-            both("aligned(" + tier + ", " + other + ", " + span + ")",
+            some("aligned(" + tier + ", " + other + ", " + span + ")",
                 () -> x.aligned(tier, other, span), () -> m.aligned(tier, other, span));
-            both("alignment(" + tier + ", " + other + ", " + is + ")",
+            some("alignment(" + tier + ", " + other + ", " + is + ")",
                 () -> x.alignment(tier, other, is), () -> m.alignment(tier, other, is));
         }
-        both("merge(" + tier + ", " + few + ")", () -> x.merge(tier, few), () -> m.merge(tier, few));
-        both("merged(" + tier + ", " + odd + ", " + few + ")",
+        some("merge(" + tier + ", " + few + ")", () -> x.merge(tier, few), () -> m.merge(tier, few));
+        some("merged(" + tier + ", " + odd + ", " + few + ")",
             () -> x.merged(tier, odd, few), () -> m.merged(tier, odd, few));
-        both("match(" + odd + ", " + few + ")", () -> x.match(odd, few), () -> m.match(odd, few));
-        askFrames(tier, few);
-        if (next(4) == 0) {
+        some("match(" + odd + ", " + few + ")", () -> x.match(odd, few), () -> m.match(odd, few));
+        some("frames(" + tier + ", " + few + ")", () -> x.frames(tier, few), () -> m.frames(tier, few));
+        if (next(8) == 0) {
+            both("agreement(" + tier + ")", () -> x.agreement(tier), () -> m.agreement(tier));
+            both("kappa(" + tier + ")", () -> x.kappa(tier), () -> m.kappa(tier));
+            both("isConsistent()", () -> x.isConsistent() ? 1 : 0, () -> 1);
+        }
+        if (next(6) == 0) {
             putPattern();
             both("search()", x::search, m::search);
             both("match(" + odd + ", 0)", () -> x.match(odd, 0), () -> m.match(odd, 0));
         }
     }
 
-    private void askFrames(int tier, int what) {
-        if (next(6) == 0) {
-            both("frames(" + tier + ", " + what + ")", () -> x.frames(tier, what), () -> m.frames(tier, what));
-            both("agreement(" + tier + ")", () -> x.agreement(tier), () -> m.agreement(tier));
-            both("kappa(" + tier + ")", () -> x.kappa(tier), () -> m.kappa(tier));
-            both("isConsistent()", () -> x.isConsistent() ? 1 : 0, () -> 1);
+    private int costOfAll() {
+        int cost = 8;
+        for (int tier = 0; tier < m.s.tiers.size(); tier++) {
+            cost += 1 + 5 * m.s.spans(tier).size();
         }
+        return cost;
     }
 
     /** All spans of the present annotator, as a wrong state may be told late or never by single questions. */
@@ -1075,16 +1090,11 @@ public final class ModelTest {
         if (crowd == 30) {
             fill();
         }
-        for (int call = 0; call < CALLS && !isWrong; call++) {
+        while (x.callsLeft() > costOfAll() + ROUND && !isWrong) {
             changeOnce();
             ask();
-            if (call % 16 == 0 && !isWrong) {
-                askAll();
-            }
-            if (log.size() > 3000) {
-                log.subList(0, 1000).clear();
-            }
         }
+        askAll();
         return isWrong;
     }
 

@@ -1,149 +1,8 @@
-import java.util.NoSuchElementException;
-
 /** Each promise by hand: ordinary inputs, the edges that the document names, and wrong inputs. */
-public final class PromiseTest {
-    private static final Class<?> INDEX = IndexOutOfBoundsException.class;
-    private static final Class<?> ARGUMENT = IllegalArgumentException.class;
-    private static final Class<?> STATE = IllegalStateException.class;
-    private static final Class<?> REFUSED = UnsupportedOperationException.class;
-    private static final Class<?> NONE = NoSuchElementException.class;
-    private static final Class<?> ARITHMETIC = ArithmeticException.class;
-
-    private static final int SIGNS = 0;
-    private static final int HOLDS = 1;
-    private static final int MOUTHINGS = 2;
-    private static final int WORDS = 3;
-
-    private static int wrong = 0;
-    private static int promise = 0;
-
-    private interface Call {
-        double go();
-    }
-
-    private static void is(String what, double got, double want) {
-        if (got != want) {
-            wrong++;
-            System.out.println("promise " + promise + ": " + what + " is " + got + ", due is " + want);
-        }
-    }
-
-    private static void fails(String what, Class<?> want, Call call) {
-        Class<?> got = null;
-        try {
-            call.go();
-        } catch (RuntimeException e) {
-            got = e.getClass();
-        }
-        if (got != want) {
-            wrong++;
-            System.out.println("promise " + promise + ": " + what + " throws " + got + ", due is " + want);
-        }
-    }
-
-    /** Puts a text into the buffer, four characters a call. */
-    private static void put(LessonTiers x, String text) {
-        for (int i = 0; i < text.length(); i += 4) {
-            int packed = 0;
-            for (int j = i; j < Math.min(i + 4, text.length()); j++) {
-                packed = packed << 8 | text.charAt(j);
-            }
-            x.append(packed);
-        }
-    }
-
-    private static int add(LessonTiers x, int tier, int first, int end, String label) {
-        put(x, label);
-        return x.addSpan(tier, first, end);
-    }
-
-    private static int read(LessonTiers x, String text) {
-        put(x, text);
-        return x.read();
-    }
-
-    private static int search(LessonTiers x, String text) {
-        put(x, text);
-        return x.search();
-    }
-
-    private static int rename(LessonTiers x, int tier, int span, String label) {
-        put(x, label);
-        return x.rename(tier, span);
-    }
-
-    /** One refused call: the exception, the reason, the number that is kept, and no change. */
-    private static void refuses(LessonTiers x, String what, int reason, int number, Call call) {
-        String before = told(x);
-        fails(what, REFUSED, call);
-        is(what + ": reason", x.refusal(true), reason);
-        is(what + ": number", x.refusal(false), number);
-        same(what + ": state", told(x), before);
-    }
-
-    private static void malformed(LessonTiers x, String what, int position, Call call) {
-        String before = told(x);
-        fails(what, ARGUMENT, call);
-        is(what + ": error position", x.errorPosition(), position);
-        is(what + ": buffer", x.book(5), 0);
-        same(what + ": state", told(x), before);
-    }
-
-    private static void same(String what, String got, String want) {
-        if (!got.equals(want)) {
-            wrong++;
-            System.out.println("promise " + promise + ": " + what + " is " + got + ", due is " + want);
-        }
-    }
-
-    private static String row(LessonTiers x, int tier) {
-        StringBuilder s = new StringBuilder();
-        for (int i = 0; i < x.tier(tier, 3); i++) {
-            s.append(i == 0 ? "" : " ").append(x.span(tier, i, 0)).append('-').append(x.span(tier, i, 1)).append('=');
-            for (int j = 0; j < x.span(tier, i, 2); j++) {
-                s.append(x.letter(tier, i, j));
-            }
-        }
-        return s.toString();
-    }
-
-    private static String told(LessonTiers x) {
-        StringBuilder s = new StringBuilder();
-        for (int what : new int[] {0, 1, 2, 3, 4, 6}) {
-            s.append(x.book(what)).append(',');
-        }
-        for (int tier = 0; tier < x.book(0); tier++) {
-            s.append('[').append(x.tier(tier, 0)).append(x.tier(tier, 1)).append(x.tier(tier, 2)).append(' ');
-            s.append(x.tier(tier, 5)).append(' ').append(row(x, tier)).append(']');
-        }
-        return s.toString();
-    }
-
-    private static String merge(LessonTiers x, int tier) {
-        StringBuilder s = new StringBuilder();
-        for (int i = 0; i < x.merge(tier, 0); i++) {
-            s.append(i == 0 ? "" : " ").append(x.merged(tier, i, 0)).append('-').append(x.merged(tier, i, 1));
-            s.append('/').append(x.merged(tier, i, 2));
-        }
-        return s.toString();
-    }
-
-    private static LessonTiers signs() {
-        LessonTiers x = new LessonTiers();
-        x.addTier(SIGNS, 0, 0);
-        return x;
-    }
-
-    /** 30 spans of one frame each, from the frame 0 on, at every step-th frame. */
-    private static void fill(LessonTiers x, int tier, int step, String label) {
-        for (int i = 0; i < 30; i++) {
-            add(x, tier, i * step, i * step + 1, label);
-        }
-    }
-
+public final class PromiseTest extends Checks {
     private static void testNew() {
-        promise = 1;
-        LessonTiers x = new LessonTiers();
+        place = "promise 1";
+        Counted x = new Counted();
         int[] due = {0, 0, 50, 20, 0, 0, 0, 0};
         for (int what = 0; what < due.length; what++) {
             is("book(" + what + ")", x.book(what), due[what]);
@@ -160,8 +19,8 @@ public final class PromiseTest {
     }
 
     private static void testClear() {
-        promise = 2;
-        LessonTiers x = signs();
+        place = "promise 2";
+        Counted x = signs();
         x.addTier(HOLDS, 1, 0);
         x.select(1);
         x.setSetting(0, 7);
@@ -192,8 +51,8 @@ public final class PromiseTest {
     }
 
     private static void testAddTier() {
-        promise = 3;
-        LessonTiers x = new LessonTiers();
+        place = "promise 3";
+        Counted x = new Counted();
         fails("kind -1", ARGUMENT, () -> x.addTier(-1, 0, 0));
         fails("kind 4", ARGUMENT, () -> x.addTier(4, 0, 0));
         fails("rule -1", ARGUMENT, () -> x.addTier(0, -1, 0));
@@ -213,7 +72,7 @@ public final class PromiseTest {
         fails("seventh of a wrong parent", INDEX, () -> x.addTier(0, 1, 6));
         is("tiers", x.book(0), 6);
         is("changes", x.book(6), 6);
-        LessonTiers y = signs();
+        Counted y = signs();
         add(y, 0, 0, 9, "a");
         y.undo();
         y.undo();
@@ -222,8 +81,8 @@ public final class PromiseTest {
     }
 
     private static void testSelect() {
-        promise = 4;
-        LessonTiers x = signs();
+        place = "promise 4";
+        Counted x = signs();
         add(x, 0, 0, 5, "zero");
         fails("annotator -1", ARGUMENT, () -> x.select(-1));
         fails("annotator 2", ARGUMENT, () -> x.select(2));
@@ -241,8 +100,8 @@ public final class PromiseTest {
     }
 
     private static void testSetSetting() {
-        promise = 5;
-        LessonTiers x = new LessonTiers();
+        place = "promise 5";
+        Counted x = new Counted();
         fails("what -1", INDEX, () -> x.setSetting(-1, 0));
         fails("what 2 ahead of the value", INDEX, () -> x.setSetting(2, 999));
         fails("value -1", ARGUMENT, () -> x.setSetting(0, -1));
@@ -261,8 +120,8 @@ public final class PromiseTest {
     }
 
     private static void testTier() {
-        promise = 6;
-        LessonTiers x = signs();
+        place = "promise 6";
+        Counted x = signs();
         x.addTier(HOLDS, 1, 0);
         x.addTier(MOUTHINGS, 3, 0);
         x.addTier(WORDS, 0, 1);
@@ -290,8 +149,8 @@ public final class PromiseTest {
     }
 
     private static void testBook() {
-        promise = 7;
-        LessonTiers x = signs();
+        place = "promise 7";
+        Counted x = signs();
         x.addTier(WORDS, 0, 0);
         add(x, 0, 0, 1, "a");
         x.select(1);
@@ -314,8 +173,8 @@ public final class PromiseTest {
     }
 
     private static void testAppend() {
-        promise = 8;
-        LessonTiers x = signs();
+        place = "promise 8";
+        Counted x = signs();
         is("nothing", x.append(0), 0);
         is("one below", x.append('a'), 1);
         is("one on top", x.append('b' << 24), 2);
@@ -328,7 +187,7 @@ public final class PromiseTest {
         fails("1 behind good ones", ARGUMENT, () -> x.append('a' << 24 | 'b' << 16 | 1));
         is("nothing of it", x.append(0), 6);
         x.clear();
-        LessonTiers y = signs();
+        Counted y = signs();
         put(y, "a".repeat(96));
         is("99", y.append('a' << 16 | 'b' << 8 | 'c'), 99);
         fails("101", STATE, () -> y.append('a' << 8 | 'b'));
@@ -336,7 +195,7 @@ public final class PromiseTest {
         is("100", y.append('a' << 8), 100);
         fails("one more", STATE, () -> y.append('a'));
         is("none more", y.append(0), 100);
-        LessonTiers z = signs();
+        Counted z = signs();
         z.append('a' << 24 | 'b' << 16 | 'c' << 8 | 'd');
         z.addSpan(0, 0, 1);
         same("order of the bytes", row(z, 0), "0-1=abcd");
@@ -344,8 +203,8 @@ public final class PromiseTest {
     }
 
     private static void testAddSpan() {
-        promise = 9;
-        LessonTiers x = signs();
+        place = "promise 9";
+        Counted x = signs();
         put(x, "a");
         fails("no tier", INDEX, () -> x.addSpan(1, 5, 5));
         fails("tier -1", INDEX, () -> x.addSpan(-1, 0, 1));
@@ -355,31 +214,35 @@ public final class PromiseTest {
         is("before", add(x, 0, 0, 100, "abcdefgh"), 0);
         is("behind", add(x, 0, 200, 1000, "z"), 2);
         same("in order", row(x, 0), "0-100=abcdefgh 100-200=a 200-1000=z");
-        malformed(x, "no label", 0, () -> x.addSpan(0, 0, 1));
-        malformed(x, "9 letters", 8, () -> add(x, 0, 0, 1, "abcdefghi"));
-        malformed(x, "a digit ahead of a bad range", 2, () -> add(x, 0, 7, 7, "ab1"));
-        malformed(x, "a big letter", 0, () -> add(x, 0, 0, 1, "A"));
-        malformed(x, "behind z", 0, () -> add(x, 0, 0, 1, "{"));
-        malformed(x, "before a", 0, () -> add(x, 0, 0, 1, "`"));
-        refuses(x, "same frames", 2, 1, () -> add(x, 0, 100, 200, "b"));
-        is("buffer is empty when refused", x.book(5), 0);
-        refuses(x, "the lowest of several", 2, 0, () -> add(x, 0, 99, 201, "b"));
-        refuses(x, "the last frame", 2, 2, () -> add(x, 0, 999, 1000, "b"));
-        refuses(x, "end 1001", 1, 0, () -> add(x, 0, 999, 1001, "b"));
-        refuses(x, "first -1", 1, 0, () -> add(x, 0, -1, 10, "b"));
-        refuses(x, "end is first", 1, 0, () -> add(x, 0, 10, 10, "b"));
-        refuses(x, "end before first", 1, 0, () -> add(x, 0, 10, 9, "b"));
-        refuses(x, "far out", 1, 0, () -> add(x, 0, Integer.MIN_VALUE, Integer.MAX_VALUE, "b"));
+        Counted y = signs();
+        malformed(y, "no label", 0, () -> y.addSpan(0, 0, 1));
+        malformed(y, "9 letters", 8, () -> add(y, 0, 0, 1, "abcdefghi"));
+        malformed(y, "a digit ahead of a bad range", 2, () -> add(y, 0, 7, 7, "ab1"));
+        malformed(y, "a big letter", 0, () -> add(y, 0, 0, 1, "A"));
+        malformed(y, "behind z", 0, () -> add(y, 0, 0, 1, "{"));
+        malformed(y, "before a", 0, () -> add(y, 0, 0, 1, "`"));
+        testAddRefused();
         testLabels();
         testHosts();
         testFull();
     }
 
+    private static void testAddRefused() {
+        Counted x = with(signs(), "0:0-100=a;0:100-200=b;0:200-1000=c");
+        refuses(x, "same frames", 2, 1, () -> add(x, 0, 100, 200, "b"));
+        is("buffer is empty when refused", x.book(5), 0);
+        refuses(x, "the lowest of several", 2, 0, () -> add(x, 0, 99, 201, "b"));
+        refuses(x, "the last frame", 2, 2, () -> add(x, 0, 999, 1000, "b"));
+        refuses(x, "end 1001", 1, 0, () -> add(x, 0, 999, 1001, "b"));
+        Counted y = signs();
+        refuses(y, "first -1", 1, 0, () -> add(y, 0, -1, 10, "b"));
+        refuses(y, "end is first", 1, 0, () -> add(y, 0, 10, 10, "b"));
+        refuses(y, "end before first", 1, 0, () -> add(y, 0, 10, 9, "b"));
+        refuses(y, "far out", 1, 0, () -> add(y, 0, Integer.MIN_VALUE, Integer.MAX_VALUE, "b"));
+    }
+
     private static void testLabels() {
-        LessonTiers x = new LessonTiers();
-        x.addTier(HOLDS, 0, 0);
-        x.addTier(MOUTHINGS, 0, 0);
-        x.addTier(WORDS, 0, 0);
+        Counted x = book(HOLDS, MOUTHINGS, WORDS);
         add(x, 0, 0, 1, "l");
         add(x, 0, 1, 2, "r");
         add(x, 0, 2, 3, "b");
@@ -389,50 +252,49 @@ public final class PromiseTest {
         same("holds", row(x, 0), "0-1=l 1-2=r 2-3=b");
         same("mouthings", row(x, 1), "0-1=0 1-2=9");
         same("words", row(x, 2), "0-1=word");
-        malformed(x, "no hold", 0, () -> add(x, 0, 5, 6, "a"));
-        malformed(x, "two holds", 1, () -> add(x, 0, 5, 6, "lr"));
-        malformed(x, "no mouthing", 0, () -> add(x, 1, 5, 6, "a"));
-        malformed(x, "two mouthings", 1, () -> add(x, 1, 5, 6, "12"));
-        malformed(x, "no word", 0, () -> add(x, 2, 5, 6, "1"));
+        Counted y = book(HOLDS, MOUTHINGS, WORDS);
+        malformed(y, "no hold", 0, () -> add(y, 0, 5, 6, "a"));
+        malformed(y, "two holds", 1, () -> add(y, 0, 5, 6, "lr"));
+        malformed(y, "no mouthing", 0, () -> add(y, 1, 5, 6, "a"));
+        malformed(y, "two mouthings", 1, () -> add(y, 1, 5, 6, "12"));
+        malformed(y, "no word", 0, () -> add(y, 2, 5, 6, "1"));
     }
 
     private static void testHosts() {
-        LessonTiers x = signs();
-        x.addTier(WORDS, 1, 0);
-        x.addTier(WORDS, 2, 0);
-        x.addTier(WORDS, 3, 0);
-        read(x, "0:10-20=a;0:20-30=b");
+        Counted x = with(ruled(1), "0:10-20=a;0:20-30=b");
+        refuses(x, "hosts that touch are no host", 3, 0, () -> add(x, 1, 19, 21, "i"));
         is("inside", add(x, 1, 10, 20, "i"), 0);
         is("inside the second one", add(x, 1, 29, 30, "i"), 1);
         refuses(x, "before both hosts", 3, 0, () -> add(x, 1, 9, 10, "i"));
         refuses(x, "behind both hosts", 3, 0, () -> add(x, 1, 30, 31, "i"));
         refuses(x, "the one in the way counts first", 2, 1, () -> add(x, 1, 25, 31, "i"));
-        is("rule 2", add(x, 2, 20, 30, "s"), 0);
-        refuses(x, "rule 2, another end", 3, 0, () -> add(x, 2, 10, 19, "s"));
-        refuses(x, "rule 2, another first frame", 3, 0, () -> add(x, 2, 11, 20, "s"));
-        is("rule 3", add(x, 3, 20, 999, "f"), 0);
-        refuses(x, "rule 3, another first frame", 3, 0, () -> add(x, 3, 11, 20, "f"));
-        is("rule 3, a shorter one", add(x, 3, 10, 11, "f"), 0);
-        x.removeSpan(1, 0);
-        refuses(x, "hosts that touch are no host", 3, 0, () -> add(x, 1, 19, 21, "i"));
         x.select(1);
         refuses(x, "the other annotator's are none", 3, 0, () -> add(x, 1, 10, 20, "i"));
+        Counted y = with(ruled(2), "0:10-20=a;0:20-30=b");
+        is("rule 2", add(y, 1, 20, 30, "s"), 0);
+        refuses(y, "rule 2, another end", 3, 0, () -> add(y, 1, 10, 19, "s"));
+        refuses(y, "rule 2, another first frame", 3, 0, () -> add(y, 1, 11, 20, "s"));
+        Counted z = with(ruled(3), "0:10-20=a;0:20-30=b");
+        is("rule 3", add(z, 1, 20, 999, "f"), 0);
+        refuses(z, "rule 3, another first frame", 3, 0, () -> add(z, 1, 11, 20, "f"));
+        is("rule 3, a shorter one", add(z, 1, 10, 11, "f"), 0);
     }
 
     private static void testFull() {
-        LessonTiers x = signs();
-        fill(x, 0, 3, "a");
+        Counted x = fill(signs(), 0, 3, "a");
         is("30 spans", x.tier(0, 3), 30);
         refuses(x, "31 spans", 5, 0, () -> add(x, 0, 500, 501, "a"));
-        refuses(x, "the range counts first", 1, 0, () -> add(x, 0, 500, 500, "a"));
-        refuses(x, "then the one in the way", 2, 29, () -> add(x, 0, 87, 88, "a"));
         x.select(1);
         is("the other annotator has room", add(x, 0, 500, 501, "a"), 0);
+        Counted y = fill(signs(), 0, 3, "a");
+        refuses(y, "the range counts first", 1, 0, () -> add(y, 0, 500, 500, "a"));
+        Counted z = fill(signs(), 0, 3, "a");
+        refuses(z, "then the one in the way", 2, 29, () -> add(z, 0, 87, 88, "a"));
     }
 
     private static void testRemoveSpan() {
-        promise = 10;
-        LessonTiers x = signs();
+        place = "promise 10";
+        Counted x = signs();
         x.addTier(HOLDS, 1, 0);
         x.addTier(MOUTHINGS, 2, 1);
         x.addTier(WORDS, 3, 0);
@@ -466,23 +328,19 @@ public final class PromiseTest {
         is("from below", x.removeSpan(3, 0), 1);
     }
 
-    private static void testMoveSpan() {
-        promise = 11;
-        LessonTiers x = signs();
+    private static Counted spansToMove() {
+        Counted x = signs();
         x.addTier(HOLDS, 1, 0);
         x.addTier(MOUTHINGS, 3, 0);
-        read(x, "0:10-20=a;0:30-40=b;0:50-60=c;1:12-14=l;2:30-99=1");
+        return with(x, "0:10-20=a;0:30-40=b;0:50-60=c;1:12-14=l;2:30-99=1");
+    }
+
+    private static void testMoveSpan() {
+        place = "promise 11";
+        Counted x = spansToMove();
         fails("no tier", INDEX, () -> x.moveSpan(3, 0, 0, 1));
         fails("no span ahead of the range", INDEX, () -> x.moveSpan(0, 3, 5, 5));
         fails("span -1", INDEX, () -> x.moveSpan(0, -1, 0, 1));
-        refuses(x, "range", 1, 0, () -> x.moveSpan(0, 0, 10, 10));
-        refuses(x, "range below", 1, 0, () -> x.moveSpan(0, 0, -1, 10));
-        refuses(x, "range above", 1, 0, () -> x.moveSpan(0, 0, 900, 1001));
-        refuses(x, "in the way, ahead of hosts", 2, 2, () -> x.moveSpan(0, 0, 59, 70));
-        refuses(x, "the lowest in the way", 2, 1, () -> x.moveSpan(0, 0, 0, 1000));
-        refuses(x, "no host", 3, 0, () -> x.moveSpan(1, 0, 19, 21));
-        refuses(x, "leaves its guest", 4, 1, () -> x.moveSpan(0, 0, 13, 20));
-        refuses(x, "leaves its guest of rule 3", 4, 2, () -> x.moveSpan(0, 1, 31, 40));
         is("not in its own way", x.moveSpan(0, 0, 12, 25), 0);
         is("guest of rule 3 needs no end", x.moveSpan(0, 1, 30, 31), 1);
         is("behind others", x.moveSpan(0, 2, 0, 5), 0);
@@ -491,7 +349,21 @@ public final class PromiseTest {
         is("a guest gets along", x.moveSpan(1, 0, 24, 25), 0);
         is("same frames are a change", x.moveSpan(1, 0, 24, 25), 0);
         is("changes", x.book(6), 8);
-        LessonTiers y = signs();
+        testMoveRefused();
+    }
+
+    private static void testMoveRefused() {
+        Counted x = spansToMove();
+        refuses(x, "range", 1, 0, () -> x.moveSpan(0, 0, 10, 10));
+        refuses(x, "range below", 1, 0, () -> x.moveSpan(0, 0, -1, 10));
+        refuses(x, "range above", 1, 0, () -> x.moveSpan(0, 0, 900, 1001));
+        refuses(x, "in the way, ahead of hosts", 2, 2, () -> x.moveSpan(0, 0, 59, 70));
+        Counted w = spansToMove();
+        refuses(w, "the lowest in the way", 2, 1, () -> w.moveSpan(0, 0, 0, 1000));
+        refuses(w, "no host", 3, 0, () -> w.moveSpan(1, 0, 19, 21));
+        refuses(w, "leaves its guest", 4, 1, () -> w.moveSpan(0, 0, 13, 20));
+        refuses(w, "leaves its guest of rule 3", 4, 2, () -> w.moveSpan(0, 1, 31, 40));
+        Counted y = signs();
         y.addTier(WORDS, 0, 0);
         y.addTier(WORDS, 2, 0);
         y.addTier(WORDS, 1, 0);
@@ -502,8 +374,8 @@ public final class PromiseTest {
     }
 
     private static void testMoveToOtherHost() {
-        promise = 11;
-        LessonTiers x = signs();
+        place = "promise 11";
+        Counted x = signs();
         x.addTier(WORDS, 1, 0);
         read(x, "0:10-20=a;0:30-40=b;1:12-13=x");
         is("the guest moves to another host", x.moveSpan(1, 0, 32, 33), 0);
@@ -513,8 +385,8 @@ public final class PromiseTest {
     }
 
     private static void testRename() {
-        promise = 12;
-        LessonTiers x = signs();
+        place = "promise 12";
+        Counted x = signs();
         x.addTier(HOLDS, 0, 0);
         read(x, "0:0-5=a;1:0-5=l");
         put(x, "b");
@@ -536,20 +408,19 @@ public final class PromiseTest {
         same("undone", row(x, 0), "0-5=b");
     }
 
-    private static void testSplit() {
-        promise = 13;
-        LessonTiers x = signs();
+    private static Counted spansToSplit() {
+        Counted x = signs();
         x.addTier(HOLDS, 1, 0);
         x.addTier(MOUTHINGS, 2, 0);
         x.addTier(WORDS, 3, 0);
-        read(x, "0:10-30=ab;0:40-50=c;1:12-14=l;1:20-22=r;3:40-60=w");
+        return with(x, "0:10-30=ab;0:40-50=c;1:12-14=l;1:20-22=r;3:40-60=w");
+    }
+
+    private static void testSplit() {
+        place = "promise 13";
+        Counted x = spansToSplit();
         fails("no tier", INDEX, () -> x.split(4, 0, 1));
         fails("no span ahead of the frame", INDEX, () -> x.split(0, 2, -5));
-        refuses(x, "at the first frame", 1, 0, () -> x.split(0, 0, 10));
-        refuses(x, "at the end", 1, 0, () -> x.split(0, 0, 30));
-        refuses(x, "far out", 1, 0, () -> x.split(0, 0, Integer.MIN_VALUE));
-        refuses(x, "through a guest", 4, 1, () -> x.split(0, 0, 21));
-        refuses(x, "through the other guest", 4, 1, () -> x.split(0, 0, 13));
         refuses(x, "without a host for a part", 3, 0, () -> x.split(3, 0, 50));
         is("between guests", x.split(0, 0, 20), 3);
         same("both parts", row(x, 0), "10-20=ab 20-30=ab 40-50=c");
@@ -561,21 +432,39 @@ public final class PromiseTest {
         x.removeSpan(2, 0);
         is("a guest of rule 3 has the first part", x.split(0, 2, 45), 4);
         is("both parts have a host of rule 3", x.split(3, 0, 45), 2);
-        LessonTiers y = signs();
-        y.addTier(WORDS, 1, 0);
-        for (int i = 0; i < 30; i++) {
-            add(y, 0, 10 * i, 10 * i + 10, "a");
-        }
+        testSplitRefused();
+    }
+
+    private static void testSplitRefused() {
+        Counted x = spansToSplit();
+        refuses(x, "at the first frame", 1, 0, () -> x.split(0, 0, 10));
+        refuses(x, "at the end", 1, 0, () -> x.split(0, 0, 30));
+        refuses(x, "far out", 1, 0, () -> x.split(0, 0, Integer.MIN_VALUE));
+        Counted u = spansToSplit();
+        refuses(u, "through a guest", 4, 1, () -> u.split(0, 0, 21));
+        refuses(u, "through the other guest", 4, 1, () -> u.split(0, 0, 13));
+        Counted y = fullToSplit();
         refuses(y, "31 spans", 5, 0, () -> y.split(0, 3, 35));
-        refuses(y, "the frame counts first", 1, 0, () -> y.split(0, 3, 40));
-        add(y, 1, 34, 36, "g");
-        refuses(y, "then the guest", 4, 1, () -> y.split(0, 3, 35));
-        refuses(y, "the last one", 5, 0, () -> y.split(0, 29, 299));
+        Counted z = fullToSplit();
+        refuses(z, "the frame counts first", 1, 0, () -> z.split(0, 3, 40));
+        Counted v = fullToSplit();
+        add(v, 1, 34, 36, "g");
+        refuses(v, "then the guest", 4, 1, () -> v.split(0, 3, 35));
+        Counted w = fullToSplit();
+        refuses(w, "the last one", 5, 0, () -> w.split(0, 29, 299));
+    }
+
+    private static Counted fullToSplit() {
+        Counted x = ruled(1);
+        for (int i = 0; i < 30; i++) {
+            add(x, 0, 10 * i, 10 * i + 10, "a");
+        }
+        return x;
     }
 
     private static void testJoin() {
-        promise = 14;
-        LessonTiers x = signs();
+        place = "promise 14";
+        Counted x = signs();
         x.addTier(HOLDS, 1, 0);
         x.addTier(MOUTHINGS, 2, 0);
         x.addTier(WORDS, 3, 0);
@@ -597,18 +486,18 @@ public final class PromiseTest {
         x.removeSpan(3, 0);
         add(x, 3, 10, 11, "w");
         is("a guest of rule 3 of the former", x.join(0, 0), 1);
-        LessonTiers y = signs();
+        Counted y = signs();
         y.addTier(WORDS, 2, 0);
         read(y, "0:0-1=a;0:1-2=b;1:0-1=x");
         refuses(y, "a guest of rule 2 of the former", 4, 1, () -> y.join(0, 0));
-        LessonTiers z = signs();
+        Counted z = signs();
         fill(z, 0, 3, "a");
         is("of 30", z.join(0, 28), 29);
     }
 
     private static void testSpan() {
-        promise = 15;
-        LessonTiers x = signs();
+        place = "promise 15";
+        Counted x = signs();
         x.addTier(HOLDS, 1, 0);
         x.addTier(MOUTHINGS, 3, 0);
         x.addTier(WORDS, 2, 2);
@@ -634,8 +523,8 @@ public final class PromiseTest {
     }
 
     private static void testLetter() {
-        promise = 16;
-        LessonTiers x = signs();
+        place = "promise 16";
+        Counted x = signs();
         x.addTier(MOUTHINGS, 0, 0);
         read(x, "0:0-10=abcdefgz;0:10-20=q;1:0-1=0");
         is("first", x.letter(0, 0, 0), 'a');
@@ -651,8 +540,8 @@ public final class PromiseTest {
     }
 
     private static void testSpanAt() {
-        promise = 17;
-        LessonTiers x = signs();
+        place = "promise 17";
+        Counted x = signs();
         read(x, "0:10-20=a;0:20-21=b;0:999-1000=c");
         int[][] due = {{9, -1}, {10, 0}, {19, 0}, {20, 1}, {21, -1}, {999, 2}, {1000, -1}, {-1, -1}, {0, -1},
             {Integer.MAX_VALUE, -1}, {Integer.MIN_VALUE, -1}};
@@ -666,8 +555,8 @@ public final class PromiseTest {
     }
 
     private static void testRefusal() {
-        promise = 18;
-        LessonTiers x = signs();
+        place = "promise 18";
+        Counted x = signs();
         fails("nothing was refused", NONE, () -> x.refusal(true));
         fails("nor a number", NONE, () -> x.refusal(false));
         fails("malformed is not refused", ARGUMENT, () -> x.addSpan(0, 0, 0));
@@ -685,8 +574,8 @@ public final class PromiseTest {
     }
 
     private static void testAligned() {
-        promise = 19;
-        LessonTiers x = signs();
+        place = "promise 19";
+        Counted x = signs();
         x.addTier(WORDS, 0, 0);
         read(x, "0:0-10=a;0:20-30=b;0:40-50=c;1:5-15=x;1:15-25=y;1:45-55=z");
         is("first", x.aligned(0, 1, 0), 0);
@@ -703,13 +592,13 @@ public final class PromiseTest {
         fails("other -1", INDEX, () -> x.aligned(0, -1, 0));
         fails("no span", INDEX, () -> x.aligned(0, 1, 3));
         fails("span -1", INDEX, () -> x.aligned(0, 1, -1));
-        LessonTiers y = signs();
+        Counted y = signs();
         y.addTier(WORDS, 0, 0);
         read(y, "0:10-20=a;0:20-30=b;1:10-30=x");
         is("of equal sums the first one gets it", y.aligned(0, 1, 0), 0);
         is("and the second one none", y.aligned(0, 1, 1), -1);
         is("of equal ones the lower one", y.aligned(1, 0, 0), 0);
-        LessonTiers z = signs();
+        Counted z = signs();
         z.addTier(WORDS, 0, 0);
         read(z, "0:100-110=a;0:110-120=b;1:80-90=x;1:104-114=y");
         is("more pairs count before nearer ones", z.aligned(0, 1, 0), 0);
@@ -720,8 +609,8 @@ public final class PromiseTest {
     }
 
     private static void testAlignment() {
-        promise = 20;
-        LessonTiers x = signs();
+        place = "promise 20";
+        Counted x = signs();
         x.addTier(WORDS, 0, 0);
         x.addTier(MOUTHINGS, 0, 0);
         read(x, "0:0-10=a;0:20-30=b;0:40-50=c;1:5-16=x;1:16-25=y;1:45-55=z");
@@ -742,7 +631,7 @@ public final class PromiseTest {
         fails("tier -1", INDEX, () -> x.alignment(-1, 0, true));
         x.select(1);
         is("the present one's spans", x.alignment(0, 0, true), 0);
-        LessonTiers y = signs();
+        Counted y = signs();
         y.addTier(WORDS, 0, 0);
         fill(y, 0, 3, "a");
         for (int i = 0; i < 30; i++) {
@@ -753,11 +642,13 @@ public final class PromiseTest {
         is("the last one", y.aligned(0, 1, 29), 29);
     }
 
+    private static Counted spansToSearch() {
+        return with(book(SIGNS, HOLDS), "0:0-10=a;0:10-20=b;0:40-50=a;1:5-15=l;1:15-16=r;1:45-46=b");
+    }
+
     private static void testSearch() {
-        promise = 21;
-        LessonTiers x = signs();
-        x.addTier(HOLDS, 0, 0);
-        read(x, "0:0-10=a;0:10-20=b;0:40-50=a;1:5-15=l;1:15-16=r;1:45-46=b");
+        place = "promise 21";
+        Counted x = spansToSearch();
         is("one label", search(x, "0=a"), 2);
         is("buffer is empty", x.book(5), 0);
         is("any", search(x, "0=*"), 3);
@@ -777,28 +668,27 @@ public final class PromiseTest {
         is("gap 19", search(x, "0=b,0=a"), 0);
         x.setSetting(1, 20);
         is("gap 20", search(x, "0=b,0=a"), 1);
-        int changes = x.book(6);
-        malformed(x, "empty", 0, x::search);
-        malformed(x, "no tier", 0, () -> search(x, "2=a"));
-        malformed(x, "a colon", 1, () -> search(x, "0:a"));
-        malformed(x, "no label", 2, () -> search(x, "0="));
-        malformed(x, "a star behind a label", 3, () -> search(x, "0=a*"));
-        malformed(x, "a label behind a star", 3, () -> search(x, "0=*a"));
-        malformed(x, "9 letters", 10, () -> search(x, "0=abcdefghi"));
-        malformed(x, "a label of another kind", 2, () -> search(x, "1=a"));
-        malformed(x, "two holds", 3, () -> search(x, "1=lr"));
-        malformed(x, "a semicolon", 3, () -> search(x, "0=a;0=b"));
-        malformed(x, "a link at the end", 4, () -> search(x, "0=a,"));
-        malformed(x, "a comma behind four", 15, () -> search(x, "0=a,0=b&0=a,0=b,0=x"));
-        malformed(x, "an and behind four", 15, () -> search(x, "0=a,0=b&0=a,0=b&"));
-        is("the latest pattern stays", x.book(7), 2);
-        is("its match", x.match(0, 0), 1);
-        is("no change", x.book(6), changes);
+        testMalformedPatterns();
         testManyMatches();
     }
 
+    private static void testMalformedPatterns() {
+        String[] texts = {"", "2=a", "0:a", "0=", "0=a*", "0=*a", "0=abcdefghi", "1=a", "1=lr", "0=a;0=b", "0=a,",
+            "0=a,0=b&0=a,0=b,0=x", "0=a,0=b&0=a,0=b&"};
+        int[] positions = {0, 0, 1, 2, 3, 3, 10, 2, 3, 3, 4, 15, 15};
+        for (int i = 0; i < texts.length; i++) {
+            String text = texts[i];
+            Counted x = spansToSearch();
+            search(x, "0=b,0=a");
+            malformed(x, "pattern '" + text + "'", positions[i], () -> search(x, text));
+            is("the latest pattern stays", x.book(7), 2);
+            is("its match", x.match(0, 0), 1);
+            is("no change", x.book(6), 3);
+        }
+    }
+
     private static void testManyMatches() {
-        LessonTiers x = signs();
+        Counted x = signs();
         fill(x, 0, 1, "a");
         x.setSetting(1, 200);
         is("435 pairs", search(x, "0=a,0=a"), 435);
@@ -815,8 +705,8 @@ public final class PromiseTest {
     }
 
     private static void testMatch() {
-        promise = 22;
-        LessonTiers x = signs();
+        place = "promise 22";
+        Counted x = signs();
         fails("no pattern", STATE, () -> x.match(-1, -1));
         x.addTier(HOLDS, 0, 0);
         read(x, "0:0-10=a;0:10-20=b;0:40-50=a;1:5-15=l;1:15-16=r;1:45-46=b");
@@ -845,7 +735,7 @@ public final class PromiseTest {
     }
 
     private static void testOldPattern() {
-        LessonTiers x = signs();
+        Counted x = signs();
         x.addTier(WORDS, 0, 0);
         add(x, 1, 0, 1, "a");
         is("a word", search(x, "1=*"), 1);
@@ -864,7 +754,7 @@ public final class PromiseTest {
     }
 
     private static void testLastMatch() {
-        LessonTiers x = signs();
+        Counted x = signs();
         x.setSetting(1, 200);
         fill(x, 0, 1, "a");
         is("many", search(x, "0=*,0=*,0=*"), 1000);
@@ -878,20 +768,8 @@ public final class PromiseTest {
         fails("match 1000", NONE, () -> x.match(1000, 0));
     }
 
-    private static LessonTiers both(String zero, String one) {
-        LessonTiers x = signs();
-        if (!zero.isEmpty()) {
-            read(x, zero);
-        }
-        x.select(1);
-        if (!one.isEmpty()) {
-            read(x, one);
-        }
-        return x;
-    }
-
     private static void merges(String zero, String one, String due, int conflicts, int dropped, int shared, int frames) {
-        LessonTiers x = both(zero, one);
+        Counted x = both(zero, one);
         same("merge of " + zero + " and " + one, merge(x, 0), due);
         is("conflicts", x.merge(0, 1), conflicts);
         is("dropped", x.merge(0, 2), dropped);
@@ -900,7 +778,7 @@ public final class PromiseTest {
     }
 
     private static void testMerge() {
-        promise = 23;
+        place = "promise 23";
         merges("", "", "", 0, 0, 0, 0);
         merges("0:0-10=a", "", "0-10/1", 0, 0, 0, 10);
         merges("", "0:0-10=a", "0-10/2", 0, 0, 0, 10);
@@ -915,14 +793,14 @@ public final class PromiseTest {
         merges("0:0-10=a", "0:0-9=b", "0-9/2 9-10/1", 1, 0, 0, 10);
         merges("0:0-10=a;0:12-20=a", "0:8-14=a", "0-20/3", 0, 0, 1, 20);
         merges("0:0-10=a;0:10-20=a", "0:2-10=b;0:10-12=b", "0-10/1 10-12/2 12-20/1", 2, 1, 0, 20);
-        LessonTiers x = both("0:0-10=a", "0:5-15=a");
+        Counted x = both("0:0-10=a", "0:5-15=a");
         x.select(0);
         is("whoever is present", x.merge(0, 3), 1);
         fails("no tier ahead of what", INDEX, () -> x.merge(1, 9));
         fails("tier -1", INDEX, () -> x.merge(-1, 0));
         fails("what -1", ARGUMENT, () -> x.merge(0, -1));
         fails("what 5", ARGUMENT, () -> x.merge(0, 5));
-        LessonTiers y = signs();
+        Counted y = signs();
         fill(y, 0, 2, "a");
         y.select(1);
         for (int i = 0; i < 30; i++) {
@@ -934,8 +812,8 @@ public final class PromiseTest {
     }
 
     private static void testMerged() {
-        promise = 24;
-        LessonTiers x = both("0:0-10=abc;0:30-40=d", "0:5-15=xy;0:35-50=d");
+        place = "promise 24";
+        Counted x = both("0:0-10=abc;0:30-40=d", "0:5-15=xy;0:35-50=d");
         int[][] due = {{0, 10, 1, 3}, {10, 15, 2, 2}, {30, 50, 3, 1}};
         for (int index = 0; index < due.length; index++) {
             for (int what = 0; what < 4; what++) {
@@ -950,8 +828,8 @@ public final class PromiseTest {
     }
 
     private static void testFrames() {
-        promise = 25;
-        LessonTiers x = both("0:0-10=a;0:20-30=b;0:30-35=c", "0:5-25=a;0:28-33=c");
+        place = "promise 25";
+        Counted x = both("0:0-10=a;0:20-30=b;0:30-35=c", "0:5-25=a;0:28-33=c");
         int[] due = {25, 25, 8, 15, 35};
         for (int present = 0; present < 2; present++) {
             x.select(present);
@@ -959,7 +837,7 @@ public final class PromiseTest {
                 is("frames(0, " + what + ")", x.frames(0, what), due[what]);
             }
         }
-        LessonTiers y = both("0:0-1000=a", "0:0-1000=a");
+        Counted y = both("0:0-1000=a", "0:0-1000=a");
         for (int what = 0; what < 5; what++) {
             is("all frames " + what, y.frames(0, what), 1000);
         }
@@ -969,7 +847,7 @@ public final class PromiseTest {
     }
 
     private static void testAgreement() {
-        promise = 26;
+        place = "promise 26";
         is("a third", both("0:0-10=a", "0:5-15=a").agreement(0), 5f / 15f);
         is("none", both("0:0-10=a", "0:5-15=b").agreement(0), 0);
         is("all", both("0:0-10=a", "0:0-10=a").agreement(0), 1);
@@ -981,7 +859,7 @@ public final class PromiseTest {
     }
 
     private static void testKappa() {
-        promise = 27;
+        place = "promise 27";
         double p = 990 / 1000.0;
         double c = (10 * 10 + 990 * 990) / 1000000.0;
         is("half of both", both("0:0-10=a", "0:5-15=a").kappa(0), (p - c) / (1 - c));
@@ -1002,8 +880,8 @@ public final class PromiseTest {
     }
 
     private static void testIsConsistent() {
-        promise = 28;
-        LessonTiers x = signs();
+        place = "promise 28";
+        Counted x = signs();
         is("without spans", x.isConsistent() ? 1 : 0, 1);
         x.addTier(HOLDS, 1, 0);
         x.addTier(MOUTHINGS, 2, 1);
@@ -1021,8 +899,8 @@ public final class PromiseTest {
     }
 
     private static void testRead() {
-        promise = 29;
-        LessonTiers x = signs();
+        place = "promise 29";
+        Counted x = signs();
         x.addTier(HOLDS, 1, 0);
         x.addTier(MOUTHINGS, 0, 0);
         is("three", read(x, "0:10-20=a;1:12-14=b;2:0-1000=0"), 3);
@@ -1035,39 +913,39 @@ public final class PromiseTest {
         is("item 0", x.refusedItem(), 0);
         is("buffer is empty when refused", x.book(5), 0);
         is("a host that comes before", read(x, "0:70-71=e;1:70-71=l"), 2);
-        refuses(x, "end 1001", 1, 0, () -> read(x, "0:80-90=a;0:999-1001=b"));
-        is("item 1", x.refusedItem(), 1);
-        refuses(x, "end 9999", 1, 0, () -> read(x, "0:80-9999=a"));
-        refuses(x, "end 0", 1, 0, () -> read(x, "0:0-0=a"));
-        refuses(x, "in the way of its own item", 2, 4, () -> read(x, "0:80-90=a;0:91-92=b;0:85-86=b"));
+        Counted y = with(signs(), "0:0-1=d;0:10-20=a;0:50-60=c;0:70-71=e");
+        refuses(y, "end 1001", 1, 0, () -> read(y, "0:80-90=a;0:999-1001=b"));
+        is("item 1", y.refusedItem(), 1);
+        refuses(y, "end 9999", 1, 0, () -> read(y, "0:80-9999=a"));
+        refuses(y, "end 0", 1, 0, () -> read(y, "0:0-0=a"));
+        refuses(y, "in the way of its own item", 2, 4, () -> read(y, "0:80-90=a;0:91-92=b;0:85-86=b"));
         testMalformed();
-        LessonTiers y = signs();
-        fill(y, 0, 3, "a");
-        y.removeSpan(0, 29);
-        refuses(y, "31 spans", 5, 0, () -> read(y, "0:500-501=a;0:600-601=a"));
+        Counted z = fill(signs(), 0, 3, "a");
+        z.removeSpan(0, 29);
+        refuses(z, "31 spans", 5, 0, () -> read(z, "0:500-501=a;0:600-601=a"));
         is("twelve items", read(signs(), "0:0-1=a;0:1-2=b;0:2-3=c;0:3-4=d;0:4-5=e;0:5-6=f;0:6-7=g;0:7-8=h;0:8-9=i;"
-            + "0:9-10=j;0:10-11=k"), 11);
+            + "0:9-10=j;0:10-11=k;0:11-12=l"), 12);
     }
 
     private static void testMalformed() {
-        LessonTiers x = signs();
-        x.addTier(HOLDS, 0, 0);
         String[] texts = {"", "2:0-1=a", ":", "0", "0=", "0:", "0:-", "0:00-1=a", "0:01-1=a", "0:12345-1=a", "0:1",
             "0:1:", "0:1-", "0:1-=", "0:1-2", "0:1-2:", "0:1-12345", "0:1-2=", "0:1-2=A", "0:1-2=abcdefghi", "0:1-2=a,",
             "0:1-2=a;", "0:1-2=a;x", "1:1-2=a", "1:1-2=lr", "1:1-2=*", " 0:1-2=a", "0:1-2=a ", "0:1-2=a;;"};
         int[] positions = {0, 0, 0, 1, 1, 2, 2, 3, 3, 6, 3, 3, 4, 4, 5, 5, 8, 6, 6, 14, 7, 8, 8, 6, 7, 6, 0, 7, 8};
         for (int i = 0; i < texts.length; i++) {
             String text = texts[i];
-            malformed(x, "text '" + text + "'", positions[i], () -> read(x, text));
+            Counted y = book(SIGNS, HOLDS);
+            malformed(y, "text '" + text + "'", positions[i], () -> read(y, text));
         }
+        Counted x = signs();
         fails("malformed ahead of refused", ARGUMENT, () -> read(x, "0:5-5=a;0:1-1=a;x"));
         fails("nothing was refused", NONE, x::refusedItem);
-        fails("without tiers", ARGUMENT, () -> read(new LessonTiers(), "0:1-2=a"));
+        fails("without tiers", ARGUMENT, () -> read(new Counted(), "0:1-2=a"));
     }
 
     private static void testErrorPosition() {
-        promise = 30;
-        LessonTiers x = signs();
+        place = "promise 30";
+        Counted x = signs();
         fails("none", NONE, x::errorPosition);
         malformed(x, "a label", 1, () -> add(x, 0, 0, 1, "a1"));
         malformed(x, "a text", 3, () -> read(x, "0:1"));
@@ -1085,8 +963,8 @@ public final class PromiseTest {
     }
 
     private static void testRefusedItem() {
-        promise = 31;
-        LessonTiers x = signs();
+        place = "promise 31";
+        Counted x = signs();
         fails("none", NONE, x::refusedItem);
         refuses(x, "a span is no text", 1, 0, () -> add(x, 0, 1, 1, "a"));
         fails("still none", NONE, x::refusedItem);
@@ -1100,55 +978,56 @@ public final class PromiseTest {
         is("item 0", x.refusedItem(), 0);
     }
 
-    private static void testUndo() {
-        promise = 32;
-        LessonTiers x = new LessonTiers();
-        fails("nothing", STATE, x::undo);
-        String[] states = new String[20];
-        for (int i = 0; i < 6; i++) {
-            states[i] = state(x);
+    /** The first changes of a row of fifteen, of all kinds. */
+    private static Counted changed(int changes) {
+        Counted x = new Counted();
+        for (int i = 0; i < Math.min(6, changes); i++) {
             x.addTier(i % 4, i % 2 == 0 ? 0 : 1, 0);
         }
-        states[6] = state(x);
-        read(x, "0:0-10=a;0:10-20=b");
-        states[7] = state(x);
-        add(x, 1, 2, 4, "l");
-        states[8] = state(x);
-        x.moveSpan(0, 1, 11, 30);
-        states[9] = state(x);
-        rename(x, 0, 0, "z");
-        states[10] = state(x);
-        x.split(0, 1, 15);
-        states[11] = state(x);
-        x.join(0, 1);
-        states[12] = state(x);
-        x.removeSpan(0, 0);
-        states[13] = state(x);
-        x.setSetting(0, 3);
-        states[14] = state(x);
-        x.select(1);
-        is("8 at most", x.book(6), 8);
-        for (int i = 0; i < 8; i++) {
-            is("undo", x.undo(), 7 - i);
-            same("state " + (14 - i), state(x), states[14 - i]);
+        Call[] calls = {() -> read(x, "0:0-10=a;0:10-20=b"), () -> add(x, 1, 2, 4, "l"), () -> x.moveSpan(0, 1, 11, 30),
+            () -> rename(x, 0, 0, "z"), () -> x.split(0, 1, 15), () -> x.join(0, 1), () -> x.removeSpan(0, 0),
+            () -> x.setSetting(0, 3), () -> x.select(1)};
+        for (int i = 6; i < changes; i++) {
+            calls[i - 6].go();
         }
-        fails("no ninth", STATE, x::undo);
-        same("left as it was", state(x), states[7]);
-        x.select(0);
-        x.select(1);
-        is("undo", x.undo(), 1);
+        return x;
+    }
+
+    private static void testUndo() {
+        place = "promise 32";
+        fails("nothing", STATE, () -> new Counted().undo());
+        for (int changes = 1; changes <= 15; changes++) {
+            Counted x = changed(changes);
+            is("changes", x.book(6), Math.min(8, changes));
+            for (int left = changes - 1; left >= Math.max(0, changes - 8); left--) {
+                is("undo", x.undo(), left - Math.max(0, changes - 8));
+                same("state " + left, state(x), state(changed(left)));
+            }
+            fails("no ninth", STATE, x::undo);
+            same("left as it was", state(x), state(changed(Math.max(0, changes - 8))));
+        }
+        testUndoAndChange();
+    }
+
+    private static void testUndoAndChange() {
+        Counted x = changed(8);
+        x.undo();
+        x.undo();
         x.setSetting(1, 3);
-        is("a change behind an undo", x.book(6), 2);
-        is("undo", x.undo(), 1);
-        is("undo", x.undo(), 0);
-        same("back", state(x), states[7]);
-        fails("refused is no change", REFUSED, () -> x.split(0, 0, 0));
-        fails("nor wrong", INDEX, () -> x.removeSpan(0, 9));
-        is("none", x.book(6), 0);
+        is("a change behind two of them", x.book(6), 7);
+        is("undo", x.undo(), 6);
+        same("back", state(x), state(changed(6)));
+        is("undo", x.undo(), 5);
+        same("further back", state(x), state(changed(5)));
+        Counted y = changed(15);
+        is("undo", y.undo(), 7);
+        fails("refused is no change", REFUSED, () -> y.moveSpan(0, 0, 0, 0));
+        fails("nor wrong", INDEX, () -> y.removeSpan(0, 9));
+        is("still 7", y.book(6), 7);
     }
 
     /** What undo brings back, without the count of changes. */
-    private static String state(LessonTiers x) {
+    private static String state(Counted x) {
         StringBuilder s = new StringBuilder();
         for (int what = 0; what < 5; what++) {
             s.append(x.book(what)).append(',');
@@ -1160,8 +1039,8 @@ public final class PromiseTest {
     }
 
     private static void testSnapshot() {
-        promise = 33;
-        LessonTiers x = new LessonTiers();
+        place = "promise 33";
+        Counted x = new Counted();
         is("of nothing", x.snapshot(), 0);
         x.addTier(SIGNS, 0, 0);
         add(x, 0, 0, 5, "a");
@@ -1174,8 +1053,8 @@ public final class PromiseTest {
     }
 
     private static void testRestore() {
-        promise = 34;
-        LessonTiers x = signs();
+        place = "promise 34";
+        Counted x = signs();
         fails("none", STATE, x::restore);
         x.select(1);
         x.setSetting(0, 1);
@@ -1240,9 +1119,6 @@ public final class PromiseTest {
         testUndo();
         testSnapshot();
         testRestore();
-        System.out.println(wrong == 0 ? "all promises are kept" : wrong + " wrong");
-        if (wrong != 0) {
-            System.exit(1);
-        }
+        end();
     }
 }
