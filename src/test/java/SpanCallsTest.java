@@ -686,6 +686,8 @@ public final class SpanCallsTest extends Sentences {
         fails("malformed", ARGUMENT, y::read);
         leaves(y, "reason", NONE, () -> y.refusal(true));
         leaves(y, "number", NONE, () -> y.refusal(false));
+        Counted z = with(book(SIGNS, WORDS, HOLDS), "0:0-10=a", "1:0-10=w", "2:0-10=l", "0:10-20=b;1:10-20=v");
+        fails("reason behind texts that were taken", NONE, () -> z.refusal(true));
     }
 
     public static void main(String[] args) throws IOException {
