@@ -166,7 +166,8 @@ abstract class Checks {
         return s.toString();
     }
 
-    private static String answer(Call call) {
+    /** What a call answers, or the exception that it throws. */
+    static String answer(Call call) {
         try {
             return call.go() + " ";
         } catch (RuntimeException e) {
