@@ -10,8 +10,8 @@ import java.util.regex.Matcher;
 import java.util.regex.Pattern;
 
 /**
- * Runs of 512 calls, the same ones each time, compared with a plain model: it counts frame by frame, tries all
- * alignments and all matches, copies its whole state for each change, and reads texts by regular expressions.
+ * Runs of 512 calls, the same ones each time, compared with a plain model: it counts frame by frame, tries all matches
+ * and all alignments of short rows, copies its whole state for each change, and reads texts by regular expressions.
  */
 public final class ModelTest {
     private static final int RUNS = 6000;
